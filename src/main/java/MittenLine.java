@@ -14,7 +14,7 @@ public final class MittenLine {
     private static final int MOST_BALLS = 9, MOST_DIGITS = 9, WORDS = 4, LAST_WORD = 999, LAST_ROW = 999999999;
     private static final int MOST_PULLED = 99, MOST_AT_ONCE = 9;
     private static final int MOST_PASSING = 16, TENTHS = 10;
-    private static final int LAST_SEED = 9999, MOST_DRAWS = 99;
+    private static final int LAST_SEED = 9999, MOST_DRAWS = 99, MOST_IN_SET = 9;
     private static final int TOLD_YARD = 10, TOLD_FELT = 20, TOLD_STRING = 30;
 
     private static final int ON = '>', BACK = '<', HOLD = '#', SQUEEZE = '!', LET_OUT = '+', WIND_IN = '-', DAY = '.';
@@ -302,8 +302,9 @@ public final class MittenLine {
         return digits;
     }
 
+    /** The least that is in a set of numbers 0 to 9; NONE. */
     private static int leastBit(int bits) {
-        for (int i = 0; i < CHILDREN; i++) {
+        for (int i = 0; i <= MOST_IN_SET; i++) {
             if ((bits >> i & 1) == 1) return i;
         }
         return NONE;

@@ -64,6 +64,8 @@ public final class SumsTest {
         DUE.same("a long row", x.read(9, 99, 999, 998, 999999999, 0), 149);
         DUE.same("a dead end at the start", x.read(12, 23, 3, 4, 123, 0), 1);
         DUE.same("a dead end, few", x.read(12, 23, 3, 4, 123, 1), 2);
+        DUE.same("few, a longer reading after it", x.read(12, 2, 1, 1, 112, 1), 2);
+        DUE.same("few, a longer reading before it", x.read(2, 1, 12, 1, 112, 1), 2);
         DUE.same("a long word past the start", x.read(123, 23, 3, 4, 23, 0), 1);
     }
 
@@ -213,6 +215,9 @@ public final class SumsTest {
         DUE.same("year(0, 100, 0)", x.year(0, 100, 0), -2);
         DUE.same("year(0, 1, -1)", x.year(0, 1, -1), -2);
         DUE.same("year(0, 1, 3)", x.year(0, 1, 3), -2);
+        // 75 times 9999 and 74 is 749999, less 11 times 65537: 29092, child 2, and 2909 by 8 leaves 5: let out.
+        DUE.same("year(9999, 1, 2)", x.year(9999, 1, 2), 19);
+        DUE.same("year(9999, 99, 0): both at the most", x.year(9999, 99, 0) >= 0 ? 1 : 0, 1);
         // 75 times 0 and 74: child 4, and 7 is a day.
         DUE.same("year(0, 1, 0)", x.year(0, 1, 0), 0);
         // 75 times 14 and 74 is 1124: child 4, and 112 by 8 leaves 0, 14 by 9 leaves 5: on by 6, and 3 is drawn.
