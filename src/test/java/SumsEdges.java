@@ -445,7 +445,9 @@ final class SumsEdges extends Cases {
 
     @Says("OUTSIDE: n, k, just 0 to 9, what")
     static void p20_pull_just_more_than_k_forbids_nothing() {
-        for (int just = 4; just <= 9; just++) pulls(7, 3, just, new MittenLine().pull(7, 3, 0, 0), new MittenLine().pull(7, 3, 0, 1));
+        Model model = new Model();
+        for (int just = 4; just <= 9; just++) pulls(7, 3, just, model.pull(7, 3, 0, 0), model.pull(7, 3, 0, 1));
+        pulls(1, 1, 2, 1, 1);
         pulls(1, 1, 9, 1, 1);
     }
 
@@ -460,7 +462,8 @@ final class SumsEdges extends Cases {
     static void p20_pull_no_more_than_k() {
         pulls(3, 2, 0, 0, NONE);
         pulls(3, 3, 0, 1, 3);
-        pulls(9, 9, 1, new Model().pull(9, 9, 1, 0), new Model().pull(9, 9, 1, 1));
+        pulls(9, 9, 0, 1, 9);
+        pulls(9, 8, 0, 0, NONE);
     }
 
     @Says("of n yards (0 to 99)")
