@@ -268,6 +268,9 @@ final class ActEdges extends Cases {
         MittenLine x = allAt(990);
         for (int i = 0; i < 9; i++) x.string(i, 1);
         yards("J>9", Due.say(x, "J>9"), 990, 991, 992, 993, 994, 995, 996, 997, 998, 999);
+        MittenLine longer = allAt(990);
+        longer.string(8, 5);
+        yards("J>9, longer", Due.say(longer, "J>9"), 990, 990, 990, 990, 990, 990, 990, 990, 994, 999);
         MittenLine y = withStrings(10);
         Due.does(y, "B<9");
         yards("B<1", Due.say(y, "B<1"), 0, 0, 10, 20, 30, 40, 50, 60, 70, 80);
